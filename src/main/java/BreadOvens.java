@@ -398,7 +398,7 @@ public final class BreadOvens {
         if (chart.lane != lane) {
             return CAST_FAULT;
         }
-        for (int r = 0; r < n && r <= CELLS; r++) {
+        for (int r = 0; r < n; r++) {
             if (!chart.holdsRoad(r)) {
                 return INDEX_FAULT;
             }
