@@ -48,6 +48,7 @@ public final class PromisesTest {
         t.undoOfDraw();
         t.undoKeepsTen();
         t.count();
+        t.fullValley();
         t.check.finish();
     }
 
@@ -556,9 +557,14 @@ public final class PromisesTest {
         due("20: in none of the one", x.every(0), -5);
         due("20: in none of the one", x.every(1), -5);
         due("20: in the one", x.every(4), 1);
+        villages(1);
+        x.place(0, OVEN, 5);
+        x.place(0, OVEN, 5);
+        due("20: the first of two", x.every(0), 0);
+        due("20: the last of two", x.every(1), 0);
         x.number(0);
         due("20: there is none", x.every(0), NONE);
-        due("20: no such, and none", x.every(5), BAD);
+        due("20: no such, and none", x.every(2), BAD);
     }
 
     private void second() {
@@ -593,6 +599,8 @@ public final class PromisesTest {
         due("21: costs 7, 9, 5, 6, 6: but the best", x.second(4), 8);
         x.place(0, OVEN, 1);
         due("21: costs 7, 9, 5, 6, 6, 1: but the best", x.second(32), 4);
+        x.place(0, OVEN, 30);
+        due("21: costs 7, 9, 5, 6, 6, 1, 30: but the best", x.second(32), 4);
     }
 
     private void lose() {
@@ -1073,5 +1081,34 @@ public final class PromisesTest {
         for (int far : FAR_OFF) {
             due("37: count(" + far + ")", x.count(far), BAD);
         }
+    }
+
+    /** Twelve villages in a row, ten places: the last of each is as good as any other. */
+    private void fullValley() {
+        int[] ones = {1, 1, 1, 1, 1, 1, 1, 1, 1, 1, 1, 1};
+        row(ones, 1, 1, 1, 1, 1, 1, 1, 1, 1, 1, 1);
+        for (int p = 0; p < 10; p++) {
+            x.place(p + 2, OVEN, 100);
+        }
+        x.number(1);
+        due("15: the last place, the last village", x.served(512, 11), 9);
+        due("16: all villages", x.share(512, 9, 0), 12);
+        due("16: all loaves", x.share(512, 9, 1), 12);
+        due("16: the farthest", x.share(512, 9, 2), 11);
+        due("17: least", x.least(), 100 + 36);
+        due("18: best: place 3 at village 5", x.best(), 8);
+        due("19: or place 4 at village 6", x.many(), 2);
+        due("24: farthest", x.farthest(), 6);
+        due("25: nearest", x.nearest(), 8);
+        due("26: added", x.added(), 8);
+        due("27: changed", x.changed(512), 8);
+        due("34: no oven is worth it, all prices go up", x.climb(1, 2), 12);
+        due("30: the last price", x.priced(11), 2);
+        due("31: for its own village", x.gives(9, 11), 2);
+        due("32: not worth its build", x.worth(9), 0);
+        due("33: so no oven", x.bound(), 24);
+        due("22: the last place lost", x.lose(9), 136);
+        due("23: like losses", x.worst(), 0);
+        due("12: the way through all", x.way(11, 0, 11), 0);
     }
 }
