@@ -601,6 +601,12 @@ public final class PromisesTest {
         due("21: costs 7, 9, 5, 6, 6, 1: but the best", x.second(32), 4);
         x.place(0, OVEN, 30);
         due("21: costs 7, 9, 5, 6, 6, 1, 30: but the best", x.second(32), 4);
+        villages(1);
+        x.place(0, OVEN, 7);
+        x.place(0, OVEN, 5);
+        x.place(0, OVEN, 9);
+        x.number(1);
+        due("21: costs 7, 5, 9: but the best", x.second(2), 1);
     }
 
     private void lose() {
