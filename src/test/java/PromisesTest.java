@@ -1116,5 +1116,6 @@ public final class PromisesTest {
         due("22: the last place lost", x.lose(9), 136);
         due("23: like losses", x.worst(), 0);
         due("12: the way through all", x.way(11, 0, 11), 0);
+        due("37: all roads", x.count(2), 11);
     }
 }
