@@ -13,6 +13,10 @@ final class Check {
         }
     }
 
+    int count() {
+        return all;
+    }
+
     void finish() {
         System.out.println(all + " answers, " + wrong + " of them wrong");
         if (wrong != 0 || all == 0) {

@@ -1,8 +1,8 @@
-import java.lang.reflect.Method;
 import java.util.Random;
 
 /** Runs of calls with fixed seeds: the class must answer as the plain model does. */
 public final class ModelTest {
+    /** With the calls that build the valley not more than 512 on one object: later answers are free. */
     private static final int RUNS = 700, CALLS = 400;
     /** Each a call and its arguments; a letter stands for a way to choose a number. */
     private static final String[] BUILDING = {
@@ -27,7 +27,7 @@ public final class ModelTest {
         this.mood = run % 4;
     }
 
-    public static void main(String[] args) throws Exception {
+    public static void main(String[] args) {
         Check check = new Check();
         for (int run = 0; run < RUNS; run++) {
             new ModelTest(run, check).play();
@@ -35,7 +35,7 @@ public final class ModelTest {
         check.finish();
     }
 
-    private void play() throws Exception {
+    private void play() {
         int villages = 1 + random.nextInt(12);
         for (int i = 0; i < villages; i++) {
             ask("village l");
@@ -53,7 +53,7 @@ public final class ModelTest {
         }
     }
 
-    private void ask(String call) throws Exception {
+    private void ask(String call) {
         String[] words = call.split(" ");
         long[] numbers = new long[words.length - 1];
         StringBuilder text = new StringBuilder("run " + run + ": " + words[0] + "(");
@@ -61,21 +61,8 @@ public final class ModelTest {
             numbers[i] = choose(words[i + 1].charAt(0));
             text.append(i > 0 ? ", " : "").append(numbers[i]);
         }
-        check.due(text.append(")").toString(), real(words[0], numbers), model.call(words[0], numbers));
-    }
-
-    private long real(String name, long[] numbers) throws Exception {
-        for (Method method : BreadOvens.class.getMethods()) {
-            if (method.getName().equals(name) && method.getParameterCount() == numbers.length) {
-                Object[] values = new Object[numbers.length];
-                for (int i = 0; i < values.length; i++) {
-                    boolean whole = method.getParameterTypes()[i] == long.class;
-                    values[i] = whole ? (Object) numbers[i] : (Object) (int) numbers[i];
-                }
-                return ((Number) method.invoke(ovens, values)).longValue();
-            }
-        }
-        throw new IllegalStateException(name);
+        Call real = Call.of(text.append(")").toString(), words[0], numbers);
+        check.due(real.text(), real.on(ovens), model.call(words[0], numbers));
     }
 
     private int upTo(int most) {
@@ -88,8 +75,8 @@ public final class ModelTest {
             int[] odd = {-1, -2, 1 << 10, 1 << 31, Integer.MAX_VALUE, 12, 10, 4, 61, 1001, 100001, 12001, 21, 100000001};
             return odd[random.nextInt(odd.length)];
         }
-        int villages = ovens.count(0);
-        int places = ovens.count(1);
+        int villages = (int) model.call("count", new long[] {0});
+        int places = (int) model.call("count", new long[] {1});
         switch (letter) {
             case 'v': return upTo(Math.max(0, villages - 1));
             case 'p': return upTo(Math.max(0, places - 1));
