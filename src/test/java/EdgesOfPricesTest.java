@@ -263,6 +263,23 @@ public final class EdgesOfPricesTest extends Edges {
         is(100000000, "priced 0");
     }
 
+    void promise34HowOften() {
+        at("Promise 34: how often a PRICE was changed");
+        villages(1, 1, 0);
+        make("price 0 99999998");
+        is(5, "climb 3 1");
+        is(100000000, "priced 0");
+        is(3, "priced 1", "climb 3 1");
+        make("place 1 OLD 0");
+        is(0, "climb 3 1");
+        make("place 1 OLD 0");
+        is(6, "priced 1", "climb 6 1");
+        is(0, "priced 1");
+        is(1, "climb 1 1", "priced 1", "climb 1 1");
+        is(0, "priced 1");
+        is(100, "climb 100 1");
+    }
+
     void promise34State() {
         at("Promise 34: BAD; STATE: there is no ALLOWED CHOICE.");
         villages(1);

@@ -365,6 +365,21 @@ public final class EdgesOfTermsTest extends Edges {
         is(2, "served 4 1");
     }
 
+    void aCostIsOfBreadAndOvens() {
+        at("Its COST: of each VILLAGE with LOAVES these times the carried WAY, and what its ovens cost");
+        villages(2, 0, 3);
+        make("road 0 1 5", "road 1 2 8", "place 0 OVEN 10", "place 2 BIG 4", "place 1 OLD 50", "place 1 SHRINE 60");
+        is(10 + 3 * 13, "cost 1");
+        is(4 + 2 * 7, "cost 2");
+        is(2 * 5 + 3 * 8, "cost 4", "cost 8", "cost 12");
+        is(10 + 4, "cost 3", "cost 7", "cost 15");
+        make("loaves 1 1");
+        is(10 + 5 + 3 * 13, "cost 1");
+        is(4 + 4 + 2 * 7, "cost 2");
+        is(10 + 4 + 4, "cost 3");
+        is(10 + 4, "cost 7", "cost 15");
+    }
+
     void aCostIsNone() {
         at("none, if a VILLAGE with LOAVES is not SERVED");
         villages(0, 0);
@@ -453,6 +468,18 @@ public final class EdgesOfTermsTest extends Edges {
         is(10, "worth 6", "worth 7");
         make("price 0 0");
         is(0, "worth 0", "worth 6", "worth 7");
+    }
+
+    void theBoundIsOfVillagesWithLoaves() {
+        at("THE BOUND is the sum of all PRICES of VILLAGES with LOAVES,");
+        is(0, "bound");
+        villages(1, 0, 1000);
+        make("price 0 10", "price 1 200", "price 2 3000");
+        is(3010, "bound");
+        make("loaves 1 1");
+        is(3210, "bound");
+        make("loaves 0 0", "loaves 2 0");
+        is(200, "bound");
     }
 
     void theBoundMayBeNone() {
